@@ -265,6 +265,7 @@ public final class PromiseTest {
         due("P7 of 0 on a number below", x.lean(0, -1), 0);
         due("P7 through another one", x.lean(3, 2), 1);
         due("P7 that does not make it lean on the first", x.lean(3, 1), 1);
+        due("P7 numbers 32 apart", x.lean(120, 2) + x.lean(120, 34) + x.lean(120, 66) + x.lean(120, 98), 4);
         due("P7 numbers 64 apart", x.lean(130, 1) + x.lean(130, 65) + x.lean(130, 129), 3);
         due("P7 again, 64 apart", x.lean(130, 1) + x.lean(130, 65) + x.lean(130, 129), 0);
         due("P7 neighbours", x.lean(130, 64) + x.lean(130, 128) + x.lean(130, 63), 3);
@@ -303,7 +304,9 @@ public final class PromiseTest {
         due("P8 locked still", x.lock(1, 2, 0), 0);
         due("P8 an act behind it", x.act(2, 1, 1, 1, 99), 2);
         due("P8 an earlier act does not turn NOW back", x.act(2, 1, 1, 1, 5), 3);
-        due("P8 until NOW is over", x.lock(1, 2, 100), 1);
+        due("P8 until NOW is over", x.lock(1, 2, 99), 1);
+        due("P8 so it is not locked", x.lock(1, 3, 99), 1);
+        due("P8 until just behind NOW", x.lock(1, 2, 100), 1);
         due("P8 below the end", x.lock(1, 3, 100), 0);
         due("P8 an undone act tells NOW too", x.act(2, 1, 7, 1, 100) + x.undo(4), 5);
         due("P8 at the end", x.lock(1, 3, Long.MAX_VALUE), 1);
