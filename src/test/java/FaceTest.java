@@ -10,19 +10,19 @@ import java.util.TreeSet;
 /** The face of the document, and rule 1 of LANGUAGE.md: all of it, and nothing more. */
 public final class FaceTest {
     private static final Set<String> FACE = new TreeSet<>(Arrays.asList(
-            "static final int NONE",
-            "VersionRows()",
-            "int record(int)",
-            "int act(int, int, long, long, long)",
-            "int at(int, int, long)",
-            "int stale(int, long, int)",
-            "int undo(int)",
-            "int lean(int, int)",
-            "int lock(int, int, long)",
-            "int batch(int, int)",
-            "int drop(int)",
-            "int conflict(int, int)",
-            "int history(int, int, int)"));
+            "public static final int NONE",
+            "public VersionRows()",
+            "public int record(int)",
+            "public int act(int, int, long, long, long)",
+            "public int at(int, int, long)",
+            "public int stale(int, long, int)",
+            "public int undo(int)",
+            "public int lean(int, int)",
+            "public int lock(int, int, long)",
+            "public int batch(int, int)",
+            "public int drop(int)",
+            "public int conflict(int, int)",
+            "public int history(int, int, int)"));
 
     public static void main(String[] args) {
         Set<String> wrong = new TreeSet<>();
@@ -58,19 +58,19 @@ public final class FaceTest {
         }
         for (Method m : VersionRows.class.getDeclaredMethods()) {
             if (isSeen(m)) {
-                found.add(m.getReturnType().getName() + " " + m.getName() + types(m.getParameterTypes()));
+                found.add(words(m) + m.getReturnType().getName() + " " + m.getName() + types(m.getParameterTypes()));
             } else if (publicNames.contains(m.getName())) {
                 wrong.add("a private method with a public name: " + m.getName());
             }
         }
         for (Constructor<?> c : VersionRows.class.getDeclaredConstructors()) {
             if (isSeen(c)) {
-                found.add("VersionRows" + types(c.getParameterTypes()));
+                found.add(words(c) + "VersionRows" + types(c.getParameterTypes()));
             }
         }
         for (Field f : VersionRows.class.getDeclaredFields()) {
             if (isSeen(f)) {
-                found.add(Modifier.toString(f.getModifiers() & ~Modifier.PUBLIC) + " " + f.getType() + " " + f.getName());
+                found.add(words(f) + f.getType() + " " + f.getName());
             } else if (Modifier.isStatic(f.getModifiers()) && !Modifier.isFinal(f.getModifiers())) {
                 wrong.add("static state: " + f.getName());
             }
@@ -84,6 +84,11 @@ public final class FaceTest {
 
     private static boolean isSeen(Member m) {
         return !Modifier.isPrivate(m.getModifiers()) && !m.isSynthetic();
+    }
+
+    private static String words(Member m) {
+        String words = Modifier.toString(m.getModifiers());
+        return words.isEmpty() ? "" : words + " ";
     }
 
     private static String types(Class<?>[] types) {

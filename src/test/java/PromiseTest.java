@@ -1,6 +1,8 @@
 /** Each promise of the document: ordinary inputs, the edges that it names, and wrong inputs. */
 public final class PromiseTest {
     private static final int[] NO_NUMBERS = {Integer.MIN_VALUE, -1, 0, 201, Integer.MAX_VALUE};
+    private static final int PROMISES = 12;
+    private static final int[] answers = new int[PROMISES + 1];
     private static int wrong = 0;
 
     public static void main(String[] args) {
@@ -24,6 +26,7 @@ public final class PromiseTest {
         history();
         wrongArguments();
         fullObject();
+        everyPromise();
         System.out.println(wrong == 0 ? "PromiseTest: all answers are as due" : "PromiseTest: " + wrong + " wrong");
         if (wrong != 0) {
             System.exit(1);
@@ -31,16 +34,26 @@ public final class PromiseTest {
     }
 
     private static void due(String what, long got, long want) {
+        answers[Integer.parseInt(what.substring(1, what.indexOf(' ')))]++;
         if (got != want) {
             wrong++;
             System.out.println(what + ": answered " + got + ", due is " + want);
         }
     }
 
+    private static void everyPromise() {
+        for (int promise = 1; promise <= PROMISES; promise++) {
+            System.out.println("P" + promise + ": " + answers[promise] + " answers looked at");
+            if (answers[promise] == 0) {
+                wrong++;
+            }
+        }
+    }
+
     private static VersionRows withRecords(int... kinds) {
         VersionRows x = new VersionRows();
         for (int i = 0; i < kinds.length; i++) {
-            due("record of kind " + kinds[i], x.record(kinds[i]), i + 1);
+            due("P2 record of kind " + kinds[i], x.record(kinds[i]), i + 1);
         }
         return x;
     }
@@ -410,7 +423,7 @@ public final class PromiseTest {
         x.act(1, 1, 7, 9, 10);
         x.act(1, 1, 8, 1, 10);
         int[][] pairs = {{1, 6}, {1, 7}, {5, 6}, {5, 7}, {6, 7}};
-        duePairs("P11", x, pairs);
+        duePairs("P11 all that count", x, pairs);
         due("P11 a pair below 0", x.conflict(-1, 0), VersionRows.NONE);
         due("P11 the least pair", x.conflict(Integer.MIN_VALUE, 1), VersionRows.NONE);
         due("P11 the greatest pair", x.conflict(Integer.MAX_VALUE, 1), VersionRows.NONE);
@@ -473,25 +486,25 @@ public final class PromiseTest {
         x.act(1, 1, 2, 1, 1);
         x.batch(1, 1);
         for (int n : NO_NUMBERS) {
-            due("act on record " + n, x.act(n, 1, 1, 1, 1), 0);
-            due("at of record " + n, x.at(n, 1, 1), VersionRows.NONE);
-            due("stale of record " + n, x.stale(n, 1, 1), VersionRows.NONE);
-            due("undo of " + n, x.undo(n), 0);
-            due("lean of " + n, x.lean(n, 1), 0);
-            due("lean on " + n, x.lean(2, n), 0);
-            due("lock of " + n, x.lock(n, 1, 1), 0);
-            due("batch from " + n, x.batch(n, 2), 0);
-            due("batch to " + n, x.batch(2, n), 0);
-            due("drop of " + n, x.drop(n), 0);
-            due("history of record " + n, x.history(n, 1, 0), 0);
+            due("P3 act on record " + n, x.act(n, 1, 1, 1, 1), 0);
+            due("P4 at of record " + n, x.at(n, 1, 1), VersionRows.NONE);
+            due("P5 stale of record " + n, x.stale(n, 1, 1), VersionRows.NONE);
+            due("P6 undo of " + n, x.undo(n), 0);
+            due("P7 lean of " + n, x.lean(n, 1), 0);
+            due("P7 lean on " + n, x.lean(2, n), 0);
+            due("P8 lock of " + n, x.lock(n, 1, 1), 0);
+            due("P9 batch from " + n, x.batch(n, 2), 0);
+            due("P9 batch to " + n, x.batch(2, n), 0);
+            due("P10 drop of " + n, x.drop(n), 0);
+            due("P12 history of record " + n, x.history(n, 1, 0), 0);
             if (n != 0) {
-                due("act on field " + n, x.act(1, n, 1, 1, 1), 0);
-                due("at of field " + n, x.at(1, n, 1), VersionRows.NONE);
-                due("stale of field " + n, x.stale(1, 1, n), VersionRows.NONE);
-                due("conflict " + n, x.conflict(n, 0), VersionRows.NONE);
-                due("conflict with what " + n, x.conflict(0, n), VersionRows.NONE);
-                due("history of field " + n, x.history(1, n, 0), 0);
-                due("history at " + n, x.history(1, 1, n), 0);
+                due("P3 act on field " + n, x.act(1, n, 1, 1, 1), 0);
+                due("P4 at of field " + n, x.at(1, n, 1), VersionRows.NONE);
+                due("P5 stale of field " + n, x.stale(1, 1, n), VersionRows.NONE);
+                due("P11 conflict " + n, x.conflict(n, 0), VersionRows.NONE);
+                due("P11 conflict with what " + n, x.conflict(0, n), VersionRows.NONE);
+                due("P12 history of field " + n, x.history(1, n, 0), 0);
+                due("P12 history at " + n, x.history(1, 1, n), 0);
             }
         }
     }
